@@ -483,6 +483,10 @@ public final class PromiseTests {
             refuses(roof, "storm(far, ..)", ARGUMENT, () -> roof.storm(far, false, 0));
             refuses(roof, "storm(.., far)", INDEX, () -> roof.storm(0, false, far));
         }
+        SlateRoofs behind = small();
+        behind.setDay(0, 5, false, 0, 0);
+        due("a storm that does come", behind.pass(1), 1);
+        due("storm(20, left) takes, but for those that are gone", behind.storm(20, false, 0), 3);
         SlateRoofs high = new SlateRoofs();
         high.lay(7, 0, 4, 1);
         due("with a force of 0 none goes", high.storm(0, false, 0), 0);
