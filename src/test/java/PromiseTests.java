@@ -1,99 +1,9 @@
 /** For each promise of the document: ordinary inputs, the edges that it names, and wrong inputs. */
-public final class PromiseTests {
-    private interface Call {
-        long answer();
-    }
-
-    private static final String INDEX = "IndexOutOfBoundsException";
-    private static final String ARGUMENT = "IllegalArgumentException";
-    private static final String STATE = "IllegalStateException";
+public final class PromiseTests extends Checks {
     private static final int[] FAR = {Integer.MIN_VALUE, -1000, -1, 1000, Integer.MAX_VALUE};
 
-    private static int wrong = 0;
-    private static int checked = 0;
-    private static String promise = "";
-
-    private static void due(String call, long got, long want) {
-        checked++;
-        if (got != want) {
-            wrong++;
-            System.out.println(promise + ": " + call + " answered " + got + ", due is " + want);
-        }
-    }
-
-    private static void dueExactly(String call, double got, double want) {
-        checked++;
-        if (got != want) {
-            wrong++;
-            System.out.println(promise + ": " + call + " answered " + got + ", due is " + want);
-        }
-    }
-
-    /** A method that throws changes nothing, so the checksum is asked before and behind it. */
-    private static void refuses(SlateRoofs roof, String call, String want, Call made) {
-        checked++;
-        long before = roof.digest();
-        String got;
-        try {
-            got = "the answer " + made.answer();
-        } catch (RuntimeException e) {
-            got = e.getClass().getSimpleName();
-        }
-        if (!got.equals(want)) {
-            wrong++;
-            System.out.println(promise + ": " + call + " gave " + got + ", due is " + want);
-        }
-        due(call + " leaves the digest", roof.digest(), before);
-    }
-
-    private static void changesNothing(SlateRoofs roof, String call, Call made) {
-        long before = roof.digest();
-        made.answer();
-        due(call + " leaves the digest", roof.digest(), before);
-    }
-
-    /** Two rows: 0 and 1 below, 2 upon both of them, 3 upon 1 alone. */
-    private static SlateRoofs small() {
-        SlateRoofs roof = new SlateRoofs();
-        roof.lay(0, 0, 4, 2);
-        roof.lay(0, 4, 4, 1);
-        roof.lay(1, 2, 4, 3);
-        roof.lay(1, 6, 1, 1);
-        return roof;
-    }
-
-    private static void layRow(SlateRoofs roof, int row, int nails) {
-        for (int from = 0; from < 12; from += 4) {
-            roof.lay(row, from, 4, nails);
-        }
-    }
-
-    private static SlateRoofs rained(int rain, int days) {
-        SlateRoofs roof = new SlateRoofs();
-        rainOn(roof, rain, days);
-        return roof;
-    }
-
-    private static void rainOn(SlateRoofs roof, int rain, int days) {
-        weather(roof, 0, false, 0, rain);
-        roof.pass(days);
-        weather(roof, 0, false, 0, 0);
-    }
-
-    private static void weather(SlateRoofs roof, int force, boolean fromRight, int hail, int rain) {
-        for (int day = 0; day < 7; day++) {
-            roof.setDay(day, force, fromRight, hail, rain);
-        }
-    }
-
-    private static void hailOn(SlateRoofs roof, int hail) {
-        weather(roof, 0, false, hail, 0);
-        roof.pass(1);
-        weather(roof, 0, false, 0, 0);
-    }
-
     private static void newObject() {
-        promise = "1 a new object";
+        head("1 a new object");
         SlateRoofs roof = new SlateRoofs();
         for (int what = 0; what <= 6; what++) {
             due("count(" + what + ")", roof.count(what), 0);
@@ -112,7 +22,7 @@ public final class PromiseTests {
     }
 
     private static void lay() {
-        promise = "2 lay";
+        head("2 lay");
         SlateRoofs roof = new SlateRoofs();
         due("lay(0, 0, 4, 1)", roof.lay(0, 0, 4, 1), 0);
         due("lay(0, 11, 1, 3)", roof.lay(0, 11, 1, 3), 1);
@@ -161,7 +71,7 @@ public final class PromiseTests {
     }
 
     private static void layLimits() {
-        promise = "2 lay, its limits";
+        head("2 lay, its limits");
         SlateRoofs roof = new SlateRoofs();
         for (int i = 0; i < 60; i++) {
             due("lay the slate " + i, roof.lay(i / 12, i % 12, 1, 1), i);
@@ -187,7 +97,7 @@ public final class PromiseTests {
     }
 
     private static void take() {
-        promise = "3 take";
+        head("3 take");
         SlateRoofs roof = small();
         refuses(roof, "take(0) below another one", STATE, () -> roof.take(0));
         due("take(2)", roof.take(2), 3);
@@ -208,7 +118,7 @@ public final class PromiseTests {
     }
 
     private static void nail() {
-        promise = "4 nail";
+        head("4 nail");
         SlateRoofs roof = small();
         due("nail(2, 1)", roof.nail(2, 1), 3);
         due("its nails", roof.slate(2, 3), 1);
@@ -235,7 +145,7 @@ public final class PromiseTests {
     }
 
     private static void board() {
-        promise = "5 board";
+        head("5 board");
         SlateRoofs roof = rained(9, 3);
         due("board(11, 7)", roof.board(11, 7), 3);
         due("its rot", roof.place(11, 7, 2), 0);
@@ -262,7 +172,7 @@ public final class PromiseTests {
     }
 
     private static void setDay() {
-        promise = "6 setDay";
+        head("6 setDay");
         SlateRoofs roof = new SlateRoofs();
         due("setDay(0, ..)", roof.setDay(0, 20, true, 9, 8), 0);
         due("setDay(0, ..) again", roof.setDay(0, 3, false, 4, 5), 2098);
@@ -285,7 +195,7 @@ public final class PromiseTests {
     }
 
     private static void slate() {
-        promise = "7 slate";
+        head("7 slate");
         SlateRoofs roof = small();
         long[][] want = {{0, 0, 4, 2, 0, 1, 8, 1}, {0, 4, 4, 1, 0, 1, 7, 2}, {1, 2, 4, 3, 0, 1, 9, 0},
             {1, 6, 1, 1, 0, 1, 3, 0}};
@@ -361,7 +271,7 @@ public final class PromiseTests {
     }
 
     private static void place() {
-        promise = "8 place";
+        head("8 place");
         SlateRoofs roof = new SlateRoofs();
         roof.lay(0, 0, 2, 3);
         roof.lay(1, 1, 2, 1);
@@ -396,7 +306,7 @@ public final class PromiseTests {
     }
 
     private static void count() {
-        promise = "9 count";
+        head("9 count");
         SlateRoofs roof = small();
         roof.lay(7, 0, 2, 3);
         roof.lay(5, 5, 1, 3);
@@ -419,7 +329,7 @@ public final class PromiseTests {
     }
 
     private static void lift() {
-        promise = "10 lift";
+        head("10 lift");
         SlateRoofs roof = small();
         due("lift(0, 10, left)", roof.lift(0, 10, false), 10);
         due("lift(0, 10, right)", roof.lift(0, 10, true), 8);
@@ -459,7 +369,7 @@ public final class PromiseTests {
     }
 
     private static void storm() {
-        promise = "11 storm";
+        head("11 storm");
         SlateRoofs roof = small();
         due("storm(2, left) takes the least", roof.storm(2, false, 0), 0);
         due("storm(2, left) rounds", roof.storm(2, false, 1), 1);
@@ -513,7 +423,7 @@ public final class PromiseTests {
     }
 
     private static void bears() {
-        promise = "12 bears";
+        head("12 bears");
         SlateRoofs roof = new SlateRoofs();
         due("a bare roof", roof.bears(false), 20);
         roof.lay(0, 0, 4, 3);
@@ -541,7 +451,7 @@ public final class PromiseTests {
     }
 
     private static void comes() {
-        promise = "13 comes";
+        head("13 comes");
         SlateRoofs roof = new SlateRoofs();
         long[] nine = {17, 17, 17, 17, 16, 15, 13, 9};
         for (int y = 0; y < 8; y++) {
@@ -569,7 +479,7 @@ public final class PromiseTests {
     }
 
     private static void leaks() {
-        promise = "14 leaks";
+        head("14 leaks");
         SlateRoofs roof = new SlateRoofs();
         due("leaks(9)", roof.leaks(9), 12 * 121);
         due("leaks(1)", roof.leaks(1), 12 * 8);
@@ -587,7 +497,7 @@ public final class PromiseTests {
     }
 
     private static void needs() {
-        promise = "15 needs";
+        head("15 needs");
         SlateRoofs roof = new SlateRoofs();
         roof.lay(0, 0, 4, 1);
         roof.lay(0, 4, 4, 1);
@@ -623,7 +533,7 @@ public final class PromiseTests {
     }
 
     private static void best() {
-        promise = "16 best";
+        head("16 best");
         SlateRoofs roof = new SlateRoofs();
         due("a bare roof", roof.best(), 400);
         changesNothing(roof, "best", () -> roof.best());
@@ -638,11 +548,7 @@ public final class PromiseTests {
     }
 
     private static void bestNowhere() {
-        SlateRoofs full = new SlateRoofs();
-        for (int row = 1; row < 8; row += 2) {
-            layRow(full, row, 2);
-        }
-        due("a roof that is covered", full.best(), -1);
+        due("a roof that is covered", covered().best(), -1);
         SlateRoofs blocked = new SlateRoofs();
         for (int row = 0; row < 8; row += row == 6 ? 1 : 2) {
             for (int x = 3; x < 12; x += 4) {
@@ -656,7 +562,7 @@ public final class PromiseTests {
     }
 
     private static void pass() {
-        promise = "17 pass";
+        head("17 pass");
         SlateRoofs roof = new SlateRoofs();
         roof.setDay(6, 0, false, 0, 9);
         due("pass(6)", roof.pass(6), 0);
@@ -774,7 +680,7 @@ public final class PromiseTests {
     }
 
     private static void foresee() {
-        promise = "18 foresee";
+        head("18 foresee");
         SlateRoofs roof = small();
         roof.setDay(0, 4, false, 6, 9);
         roof.setDay(1, 4, true, 0, 5);
@@ -805,7 +711,7 @@ public final class PromiseTests {
     }
 
     private static void share() {
-        promise = "19 share";
+        head("19 share");
         SlateRoofs roof = new SlateRoofs();
         dueExactly("a bare roof", roof.share(), 0.0);
         roof.lay(0, 0, 1, 1);
@@ -813,22 +719,15 @@ public final class PromiseTests {
         dueExactly("13 places", small().share(), 13.0 / 96.0);
         hailOn(roof, 9);
         dueExactly("with a cracked one", roof.share(), 0.0);
-        SlateRoofs full = new SlateRoofs();
-        for (int row = 1; row < 8; row += 2) {
-            layRow(full, row, 2);
-        }
-        dueExactly("a covered roof", full.share(), 1.0);
+        dueExactly("a covered roof", covered().share(), 1.0);
     }
 
     private static void digest() {
-        promise = "20 digest";
+        head("20 digest");
         due("a new object", new SlateRoofs().digest(), digestOf(new SlateRoofs(), new int[14]));
-        SlateRoofs roof = small();
         int[] table = {2097, 1, 345, 0, 0, 0, 0, 0, 0, 0, 0, 0, 600, 1};
-        roof.setDay(0, 20, true, 9, 7);
-        roof.setDay(1, 3, false, 4, 5);
-        roof.setDay(6, 6, true, 0, 0);
-        due("a few slates", roof.digest(), digestOf(roof, table));
+        due("a few slates", smallWithTable().digest(), digestOf(smallWithTable(), table));
+        SlateRoofs roof = smallWithTable();
         roof.take(3);
         roof.pass(2);
         roof.lay(2, 4, 3, 2);
@@ -836,6 +735,15 @@ public final class PromiseTests {
         changesNothing(roof, "digest", () -> roof.digest());
     }
 
+    private static SlateRoofs smallWithTable() {
+        SlateRoofs roof = small();
+        roof.setDay(0, 20, true, 9, 7);
+        roof.setDay(1, 3, false, 4, 5);
+        roof.setDay(6, 6, true, 0, 0);
+        return roof;
+    }
+
+    /** Asks for each number by itself, which is most of the 512 calls that an object is used for. */
     private static long digestOf(SlateRoofs roof, int[] table) {
         long d = 919;
         for (int what = 0; what < 7; what++) {
@@ -875,9 +783,6 @@ public final class PromiseTests {
         foresee();
         share();
         digest();
-        System.out.println(checked + " answers looked at, " + wrong + " not as due");
-        if (wrong != 0) {
-            System.exit(1);
-        }
+        finish();
     }
 }
